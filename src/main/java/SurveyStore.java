@@ -815,19 +815,25 @@ public final class SurveyStore {
         int found = nearestOf(set, number);
         int before = 0;
         for (int n = 0; n < made; n++) {
-            Commit commit = commitAt(n);
-            if (commit == null || !contains(found, n)) {
-                continue;
+            if (contains(found, n)) {
+                joinBase(row, before, n, depth);
+                before |= 1 << n;
             }
-            if (before == 0) {
-                row.take(commit.cells);
-            } else if (depth + 1 < COMMITS) {
-                // Each depth is about commits of lower numbers than the last, so 24 are enough.
-                row.mergeWith(commit.cells, baseOf(before, n, depth + 1).values);
-            }
-            before |= 1 << n;
         }
         return row;
+    }
+
+    // Each depth is about commits of lower numbers than the one above, so there are rows for all.
+    private void joinBase(BaseRow row, int before, int number, int depth) {
+        Commit commit = commitAt(number);
+        if (commit == null) {
+            return;
+        }
+        if (before == 0) {
+            row.take(commit.cells);
+        } else if (depth + 1 < COMMITS) {
+            row.mergeWith(commit.cells, baseOf(before, number, depth + 1).values);
+        }
     }
 
     private BaseRow baseRowAt(int depth) {
