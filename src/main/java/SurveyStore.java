@@ -437,9 +437,10 @@ public final class SurveyStore {
             throw new IllegalStateException();
         }
         BaseRow base = baseOf(1 << branch.head, commit, 0);
-        mergeCells(branch, other.cells, base.values);
+        Conflicts conflicts = branch.freshConflicts();
+        mergeCells(branch.cells, other.cells, base.values, conflicts);
         branch.merging = commit;
-        return branch.conflicts == null ? 0 : branch.conflicts.count;
+        return conflicts.count;
     }
 
     public int conflict(int b, int i, int what) {
@@ -661,7 +662,7 @@ public final class SurveyStore {
     }
 
     private Commit commitAt(int number) {
-        return number >= 0 && number < made && number < COMMITS ? commits[number] : null;
+        return number >= 0 && number < COMMITS ? commits[number] : null;
     }
 
     private Branch branchAt(int b) {
@@ -843,21 +844,20 @@ public final class SurveyStore {
         return baseRows[depth];
     }
 
-    private void mergeCells(Branch branch, long[] others, int[] base) {
-        Conflicts conflicts = branch.freshConflicts();
+    private void mergeCells(long[] cells, long[] others, int[] base, Conflicts conflicts) {
         for (int i = 0; i < ALL_CELLS; i++) {
-            long cell = branch.cells[i];
-            int mine = valueOf(cell);
+            int mine = valueOf(cells[i]);
             int other = valueOf(others[i]);
             int kind = kinds[layerOf(i)];
             if (isConflict(mine, other, base[i])) {
                 if (kind == 0) {
                     conflicts.add(i, mine, other, base[i]);
-                } else if (otherWins(kind, cell, others[i])) {
-                    branch.cells[i] = others[i];
+                } else if (otherWins(kind, cells[i], others[i])) {
+                    cells[i] = others[i];
                 }
             } else if (mine == base[i] && mine != other) {
-                branch.cells[i] = others[i];
+                // Where both values are the same, mine stays, and with it my origin.
+                cells[i] = others[i];
             }
         }
     }

@@ -19,6 +19,7 @@ final class EditTest {
         polygonCells();
         polygonIgnoresTheRegion();
         polygonOnSides();
+        polygonAwayFromTheEdges();
         polygonOfCrossedSides();
         polygonOfUnsetCorners();
         polygonRefuses();
@@ -34,6 +35,7 @@ final class EditTest {
         combiningWithoutValues();
         combiningWithItself();
         combineRefuses();
+        editsKeepToTheRegion();
         editsKeepToTheirPlace();
         checks.end();
     }
@@ -186,6 +188,20 @@ final class EditTest {
         s.polygon(0, 1, 3, 1);
         checks.same("polygon: a left side through the middle holds it", s.value(24, 1, 1, 1), 1);
         checks.same("polygon: cells on and above the diagonal", s.total(24, 1, 1), 10);
+    }
+
+    private static void polygonAwayFromTheEdges() {
+        SurveyStore s = new SurveyStore();
+        corners(s, 10, 20, 16, 23, 10, 26);
+        s.polygon(0, 0, 3, 1);
+        int[] cellsOfRow = {1, 3, 5, 5, 3, 1};
+        for (int row = 0; row < 6; row++) {
+            s.region(0, 20 + row, 32, 1);
+            checks.same("polygon: cells of row " + row, s.total(24, 0, 1), cellsOfRow[row]);
+            checks.same("polygon: the first cell of row " + row, s.value(24, 0, 10, 20 + row), 1);
+        }
+        s.region(0, 0, 32, 32);
+        checks.same("polygon: no cells elsewhere", s.total(24, 0, 1), 18);
     }
 
     private static void polygonOfCrossedSides() {
@@ -458,6 +474,40 @@ final class EditTest {
             checks.illegalArgument("combine with " + w[0] + ", way " + w[1], () -> s.combine(0, 0, w[0], w[1]));
         }
         checks.same("combine refused: nothing changed", s.about(24, 2), 0);
+    }
+
+    /** A region with four different numbers, and every cell of the layer looked at. */
+    private static void editsKeepToTheRegion() {
+        for (int edit = 0; edit < 4; edit++) {
+            SurveyStore s = new SurveyStore();
+            s.paint(0, 0, 3);
+            s.paint(0, 1, 4);
+            s.commit(0);
+            s.entry(0, 3, 7);
+            s.region(9, 20, 5, 3);
+            switch (edit) {
+                case 0:
+                    s.paint(0, 0, 7);
+                    break;
+                case 1:
+                    s.map(0, 0);
+                    break;
+                case 2:
+                    s.combine(0, 0, 1, 0);
+                    break;
+                default:
+                    s.copy(0, 0, 1, 1, 9, 20);
+            }
+            int due = edit < 3 ? 7 : 4;
+            checks.same("edit " + edit + ": cells", s.differing(24, 1, 0), 15);
+            for (int k = 0; k < 15; k++) {
+                int at = s.differs(24, 1, 0, k);
+                checks.same("edit " + edit + ": cell " + k, at, 32 * (20 + k / 5) + 9 + k % 5);
+                checks.same("edit " + edit + ": value", s.value(24, 0, at % 32, at / 32), due);
+            }
+            checks.same("edit " + edit + ": the total of the region", s.total(24, 0, 0), 15 * due);
+            checks.same("edit " + edit + ": how many in the region", s.total(24, 0, 1), 15);
+        }
     }
 
     private static void editsKeepToTheirPlace() {

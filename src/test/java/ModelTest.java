@@ -36,7 +36,9 @@ final class ModelTest {
     public static void main(String[] args) {
         for (int seed = 0; seed < RUNS && !checks.anyWrong(); seed++) {
             ModelTest run = new ModelTest(seed);
-            if (seed % 3 == 0) {
+            if (seed % 8 == 7) {
+                run.ladder();
+            } else if (seed % 3 == 0) {
                 run.mixedCalls();
             } else {
                 run.history(seed % 3 == 1);
@@ -48,6 +50,7 @@ final class ModelTest {
         checks.yes("there were crossed merges", crossed > 100);
         checks.yes("there were merges with three nearest", wide > 10);
         checks.yes("there were bases of bases", deep > 10);
+        checks.yes("there were bases nine deep", deepest >= 9);
         checks.end();
     }
 
@@ -69,6 +72,19 @@ final class ModelTest {
         int due = answerOf(ofModel);
         checks.same(name + ": " + what, answerOf(ofStore), due);
         return due;
+    }
+
+    private void run(String what, Runnable ofStore, Runnable ofModel) {
+        ask(what, () -> done(ofStore), () -> done(ofModel));
+    }
+
+    private static int done(Runnable call) {
+        call.run();
+        return DONE;
+    }
+
+    private void place(int x, int y, int w, int h) {
+        ask("region", () -> one(store.region(x, y, w, h)), () -> one(model.region(x, y, w, h)));
     }
 
     private int pick(int bound) {
@@ -125,6 +141,27 @@ final class ModelTest {
         }
     }
 
+    /** Two branches that merge each other's heads by turns: every rung is a base of the next. */
+    private void ladder() {
+        run("branch", () -> store.branch(1, 0), () -> model.branch(1, 0));
+        while (model.made() < 22) {
+            int[] heads = {model.head(0), model.head(1)};
+            for (int b = 0; b < 2; b++) {
+                if (heads[0] > 0 && heads[1] > 0) {
+                    mergeOne(b, heads[1 - b]);
+                    settleAll(b, true);
+                }
+                for (int i = 0; i < 3; i++) {
+                    place(random.nextInt(5), 0, 1, 1);
+                    paint(b, random.nextInt(2), random.nextInt(4) == 0 ? NONE : random.nextInt(3));
+                }
+                int branch = b;
+                ask("commit", () -> store.commit(branch), () -> model.commit(branch));
+            }
+        }
+        mergeOne(0, model.head(1));
+    }
+
     private void set() {
         int a = pick(8);
         switch (random.nextInt(7)) {
@@ -153,7 +190,7 @@ final class ModelTest {
                 int y = pick(small ? 2 : 32);
                 int w = 1 + pick(small ? 3 : 32);
                 int h = 1 + pick(small ? 2 : 32);
-                ask("region", () -> one(store.region(x, y, w, h)), () -> one(model.region(x, y, w, h)));
+                place(x, y, w, h);
             }
         }
     }
@@ -165,13 +202,7 @@ final class ModelTest {
         switch (random.nextInt(8)) {
             case 0: {
                 int n = random.nextInt(10) == 0 ? pick(9) : 3 + random.nextInt(4);
-                ask("polygon", () -> {
-                    store.polygon(b, layer, n, v);
-                    return DONE;
-                }, () -> {
-                    model.polygon(b, layer, n, v);
-                    return DONE;
-                });
+                run("polygon", () -> store.polygon(b, layer, n, v), () -> model.polygon(b, layer, n, v));
                 break;
             }
             case 1: {
@@ -179,34 +210,17 @@ final class ModelTest {
                 int from = pick(4);
                 int x = pick(random.nextBoolean() ? 4 : 32);
                 int y = pick(random.nextBoolean() ? 2 : 32);
-                ask("copy", () -> {
-                    store.copy(b, layer, commit, from, x, y);
-                    return DONE;
-                }, () -> {
-                    model.copy(b, layer, commit, from, x, y);
-                    return DONE;
-                });
+                run("copy", () -> store.copy(b, layer, commit, from, x, y),
+                        () -> model.copy(b, layer, commit, from, x, y));
                 break;
             }
             case 2:
-                ask("map", () -> {
-                    store.map(b, layer);
-                    return DONE;
-                }, () -> {
-                    model.map(b, layer);
-                    return DONE;
-                });
+                run("map", () -> store.map(b, layer), () -> model.map(b, layer));
                 break;
             case 3: {
                 int second = pick(4);
                 int way = pick(3);
-                ask("combine", () -> {
-                    store.combine(b, layer, second, way);
-                    return DONE;
-                }, () -> {
-                    model.combine(b, layer, second, way);
-                    return DONE;
-                });
+                run("combine", () -> store.combine(b, layer, second, way), () -> model.combine(b, layer, second, way));
                 break;
             }
             default:
@@ -215,13 +229,7 @@ final class ModelTest {
     }
 
     private void paint(int b, int layer, int v) {
-        ask("paint", () -> {
-            store.paint(b, layer, v);
-            return DONE;
-        }, () -> {
-            model.paint(b, layer, v);
-            return DONE;
-        });
+        run("paint", () -> store.paint(b, layer, v), () -> model.paint(b, layer, v));
     }
 
     private void grow(boolean settling) {
@@ -232,13 +240,7 @@ final class ModelTest {
             ask("drop", () -> one(store.drop(b)), () -> one(model.drop(b)));
         } else if (what < 4) {
             int fresh = pick(4);
-            ask("branch", () -> {
-                store.branch(fresh, commit);
-                return DONE;
-            }, () -> {
-                model.branch(fresh, commit);
-                return DONE;
-            });
+            run("branch", () -> store.branch(fresh, commit), () -> model.branch(fresh, commit));
         } else if (what < 10) {
             ask("commit", () -> store.commit(b), () -> model.commit(b));
         } else if (what < 13) {

@@ -1,8 +1,10 @@
 import java.math.BigDecimal;
 import java.util.ArrayList;
 import java.util.Arrays;
+import java.util.HashMap;
 import java.util.HashSet;
 import java.util.List;
+import java.util.Map;
 import java.util.Set;
 import java.util.TreeSet;
 
@@ -36,6 +38,7 @@ final class PlainModel {
     }
 
     private final List<Commit> commits = new ArrayList<>();
+    private final Map<Integer, Set<Integer>> ancestorsOf = new HashMap<>();
     private final Branch[] branches = new Branch[4];
     private final int[] kinds = new int[4];
     private int[] region = {0, 0, 32, 32};
@@ -282,12 +285,15 @@ final class PlainModel {
     }
 
     private Set<Integer> ancestors(int c) {
-        Set<Integer> found = new TreeSet<>();
-        found.add(c);
-        for (int parent : commits.get(c).parents()) {
-            found.addAll(ancestors(parent));
+        if (!ancestorsOf.containsKey(c)) {
+            Set<Integer> found = new TreeSet<>();
+            found.add(c);
+            for (int parent : commits.get(c).parents()) {
+                found.addAll(ancestors(parent));
+            }
+            ancestorsOf.put(c, found);
         }
-        return found;
+        return ancestorsOf.get(c);
     }
 
     int conflict(int b, int i, int what) {

@@ -22,6 +22,7 @@ final class ReadTest {
         blocksByValuesAlone();
         blocksOfAllPlaces();
         blocksOfManyValues();
+        blocksToTheBrim();
         blocksRefuse();
         checks.end();
     }
@@ -243,6 +244,35 @@ final class ReadTest {
         }
         checks.same("blocks: many", s.blocks(2), due);
         checks.same("blocks: many, asked again", s.blocks(2), due);
+    }
+
+    /** All 23 commits and three more branches with 64 different blocks each. */
+    private static void blocksToTheBrim() {
+        SurveyStore s = new SurveyStore();
+        for (int i = 0; i < 32; i++) {
+            s.region(i, 0, 1, 32);
+            s.paint(0, 0, i);
+            s.region(0, i, 32, 1);
+            s.paint(0, 1, 100 * i);
+        }
+        s.region(0, 0, 32, 32);
+        s.paint(0, 2, 10000);
+        s.combine(0, 0, 1, 0);
+        for (int n = 1; n < 24; n++) {
+            s.commit(0);
+            checks.same("blocks: after commit " + n, s.blocks(0), 64 * n);
+            s.combine(0, 0, 2, 0);
+        }
+        checks.same("blocks: and the branch", s.blocks(0), 64 * 24);
+        for (int b = 1; b < 4; b++) {
+            s.branch(b, 23);
+            for (int times = 0; times <= b; times++) {
+                s.combine(b, 0, 2, 0);
+            }
+        }
+        checks.same("blocks: and three more", s.blocks(0), 64 * 27);
+        checks.same("blocks: of the plain layer", s.blocks(2), 1);
+        checks.same("blocks: of rows", s.blocks(1), 8);
     }
 
     private static void blocksRefuse() {
