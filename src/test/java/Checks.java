@@ -7,11 +7,29 @@ final class Checks {
     private static final int MOST_PRINTED = 40;
 
     private final String name;
+    private String sentence = "";
+    private int sentences;
     private int asked;
     private int wrong;
 
     Checks(String name) {
         this.name = name;
+    }
+
+    /** Runs the test of one sentence of the document; its words stand before every wrong answer. */
+    void sentence(String words, Call test) {
+        sentence = words + ": ";
+        sentences++;
+        int before = asked;
+        try {
+            test.run();
+        } catch (RuntimeException e) {
+            tell("the test was broken off by " + e);
+        }
+        if (asked == before) {
+            tell("nothing was asked");
+        }
+        sentence = "";
     }
 
     void same(String what, long got, long due) {
@@ -53,7 +71,7 @@ final class Checks {
     private void tell(String text) {
         wrong++;
         if (wrong <= MOST_PRINTED) {
-            System.out.println(name + ": " + text);
+            System.out.println(name + ": " + sentence + text);
         }
     }
 
@@ -62,7 +80,8 @@ final class Checks {
     }
 
     void end() {
-        System.out.println(name + ": " + asked + " answers asked, " + wrong + " wrong");
+        String about = sentences == 0 ? "" : " about " + sentences + " sentences";
+        System.out.println(name + ": " + asked + " answers asked" + about + ", " + wrong + " wrong");
         System.exit(wrong == 0 && asked > 0 ? 0 : 1);
     }
 }

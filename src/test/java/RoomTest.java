@@ -62,13 +62,7 @@ final class RoomTest {
     }
 
     private static void branchesAgainAndAgain(SurveyStore s) {
-        s.branch(1, 0);
-        for (int layer = 0; layer < 4; layer++) {
-            s.paint(0, layer, 1);
-            s.paint(1, layer, 2);
-        }
-        s.commit(0);
-        s.commit(1);
+        Stores.paintFork(s);
         for (int i = 0; i < CALLS / 3; i++) {
             int b = i % 4;
             s.drop(b);
