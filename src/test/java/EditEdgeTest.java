@@ -540,8 +540,9 @@ final class EditEdgeTest {
         SurveyStore s = Stores.painted();
         s.entry(0, 5, 6);
         checks.no("from too large", s.entry(0, MOST + 1, 8));
-        checks.no("to too large", s.entry(0, 5, MOST + 1));
+        checks.no("to too large", s.entry(0, 4, MOST + 1));
         checks.no("from too small", s.entry(0, -MOST - 1, 8));
+        checks.no("to too small", s.entry(0, 4, -MOST - 1));
         checks.no("no such entry", s.entry(8, 5, 9));
         s.map(0, 0);
         checks.same("5 becomes", s.total(24, 0, 0), 6 * 1024);
